@@ -37,7 +37,7 @@ public final class ModelTest {
                 operate();
             } else if (kind < 85) {
                 goBack();
-            } else if (kind < 88 && looks++ < 6) {
+            } else if (kind < 89 && looks++ < 8) {
                 searches();
             } else {
                 foretell();
@@ -243,32 +243,46 @@ public final class ModelTest {
 
     // ---- what the calls answer
 
+    // In an order by chance, for each call is to look at the bridge as it is now.
     private void searches() {
-        due("best", bridge.best(), model.best());
-        due("miss", bridge.miss(), model.miss());
-        due("better", bridge.better(), model.better());
         int first = below(5);
         int second = below(5);
-        due("bestWith", bridge.bestWith(first, second), model.bestWith(first, second));
-        if (below(model.setup.errors.size() == 4 ? 4 : 1) == 0) {
-            due("bestArms", bridge.bestArms(), model.bestArms());
-        }
-        for (int leads = 2; leads <= 3; leads++) {
-            due("apparent", bridge.apparent(leads), model.apparent(leads));
+        for (int i = 0; i < 3; i++) {
+            switch (below(6)) {
+                case 0: due("best", bridge.best(), model.best()); break;
+                case 1: due("miss", bridge.miss(), model.miss()); break;
+                case 2: due("better", bridge.better(), model.better()); break;
+                case 3: due("bestWith", bridge.bestWith(first, second), model.bestWith(first, second)); break;
+                case 4:
+                    if (below(model.setup.errors.size() == 4 ? 4 : 1) == 0) {
+                        due("bestArms", bridge.bestArms(), model.bestArms());
+                    }
+                    break;
+                default:
+                    int leads = between(2, 3);
+                    due("apparent", bridge.apparent(leads), model.apparent(leads));
+                    break;
+            }
         }
     }
 
     private void foretell() {
-        due("ideal", bridge.ideal(), model.ideal());
-        int ticks = some(0, 300);
-        for (int what = 0; what < 3; what++) {
-            due("foretold", bridge.foretold(ticks, what), model.foretold(ticks, what));
-        }
-        due("steadyIn", bridge.steadyIn(), model.steadyIn(true));
-        due("cooledIn", bridge.cooledIn(), model.steadyIn(false));
-        due("report", bridge.report(), model.report());
-        for (int i = -1; i <= model.report.length(); i++) {
-            due("reportByte", bridge.reportByte(i), i < 0 || i == model.report.length() ? -1 : model.report.charAt(i));
+        switch (below(5)) {
+            case 0: due("ideal", bridge.ideal(), model.ideal()); break;
+            case 1: due("steadyIn", bridge.steadyIn(), model.steadyIn(true)); break;
+            case 2: due("cooledIn", bridge.cooledIn(), model.steadyIn(false)); break;
+            case 3:
+                due("report", bridge.report(), model.report());
+                for (int i = -1; i <= model.report.length(); i++) {
+                    boolean there = i >= 0 && i < model.report.length();
+                    due("reportByte", bridge.reportByte(i), there ? model.report.charAt(i) : -1);
+                }
+                break;
+            default:
+                int ticks = some(0, 300);
+                int what = below(3);
+                due("foretold", bridge.foretold(ticks, what), model.foretold(ticks, what));
+                break;
         }
     }
 

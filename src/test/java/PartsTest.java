@@ -145,6 +145,9 @@ public final class PartsTest {
         Check.due("coldOf 91 is divided as one sum", whole.coldOf(91), 95);
         Check.due("coldOf 95", whole.coldOf(95), 99);
         Check.due("coldOf 99", whole.coldOf(99), 103);
+        DecadeBridge less = Bridges.made("box 0 0 -1 -1;unknown 1000");
+        Check.due("0.999999 is 0", less.coldOf(1), 0);
+        Check.due("9.99999 is 9", less.coldOf(10), 9);
         DecadeBridge most = Bridges.made("box 4 999 50000 50000 50000 50000;unknown 1000");
         Check.due("the greatest cold value", most.coldOf(9999), 104989500 + 999);
     }

@@ -6,6 +6,7 @@ public final class ResultsTest {
         endings();
         manners();
         shiftsOut();
+        mixedEndings();
         means();
         steadiest();
         Check.end();
@@ -144,6 +145,35 @@ public final class ResultsTest {
         bridge.undo();
         Check.due("undone, the earliest one is back", bridge.manner(0, 4), 0);
         Check.due("and is of kind 1", bridge.manner(0, 0), 1);
+    }
+
+    // Results that ended otherwise keep how they did when they move up, and when they come back.
+    private static void mixedEndings() {
+        DecadeBridge bridge = Bridges.made("box 2 0 0 0;unknown 3700;leads 0 100 0;supply 100 1000000");
+        for (int i = 0; i < 23; i++) {
+            bridge.connect(i % 3 == 0 ? 2 : 3);
+            bridge.setArms(0, i % 2);
+            bridge.balance(false);
+        }
+        bridge.save(0);
+        int[] ended = new int[20];
+        int nulls = 0;
+        for (int i = 0; i < 20; i++) {
+            ended[i] = bridge.result(i, 5);
+            nulls += ended[i] == 1 ? 1 : 0;
+        }
+        bridge.setArms(1, 1);
+        for (int i = 0; i < 5; i++) {
+            bridge.connect(2 + i % 2);
+            bridge.balance(i % 2 == 0);
+            int last = bridge.result(19, 5);
+            Check.due("how the results ended moves up", bridge.result(14, 5), i + 15 < 20 ? ended[i + 15] : last);
+        }
+        bridge.restore(0);
+        for (int i = 0; i < 20; i++) {
+            Check.due("how result " + i + " ended", bridge.result(i, 5), ended[i]);
+        }
+        Check.due("some ended by a null", nulls > 0 && nulls < 20 ? 1 : 0, 1);
     }
 
     // A detector with noise gives results of several values.

@@ -29,6 +29,11 @@ public final class StatesTest {
                 + "detector 9999999 0 0 -99999");
         Check.due("a misled balance", two.balance(false), 2);
         Check.dueText("a negative value", Bridges.reportOf(two), "53 0/0 ww -1700\n");
+        // 6000 against 5000 is a deflection of 45454, which the detector's zero takes away.
+        DecadeBridge zero = Bridges.made("box 2 0 0 0;unknown 1000;leads 2000 3000 0;supply 1 1000000;"
+                + "detector 9999999 0 0 -45454");
+        zero.balance(false);
+        Check.dueText("a value of 0", Bridges.reportOf(zero), "50 0/0 ww 0*\n");
         DecadeBridge four = Bridges.made("box 4 0 0 0 0 0;unknown 70000;supply 20000 1000000");
         four.setArms(4, 4);
         four.balance(true);

@@ -49,6 +49,10 @@ public final class TextsTest {
         Check.due("feed up to 599", bridge.feed(0x01010101, 0x01010101, 0x01010101, 0x00010101, 0), 599);
         Check.due("601 is too many", bridge.feed(0x01010000, 0, 0, 0, 0), -1);
         Check.due("601 is too many", bridge.feed(0, 0, 0, 0, 0x00000101), -1);
+        Check.due("601 is too many", bridge.feed(0, 0x00000101, 0, 0, 0), -1);
+        Check.due("601 is too many", bridge.feed(0, 0, 0x01000001, 0, 0), -1);
+        Check.due("601 is too many", bridge.feed(0, 0, 0, 0x01010000, 0), -1);
+        Check.due("601 is too many", bridge.feed(0x01000000, 0, 0, 0, 1), -1);
         Check.due("600 is not", bridge.feed(0, 0, 0x00010000, 0, 0), 600);
         Check.due("nothing more at 600", bridge.feed(0, 0, 0, 0, 0), 600);
         Check.due("one more is too many", bridge.feed(1, 0, 0, 0, 0), -1);
@@ -173,6 +177,14 @@ public final class TextsTest {
         wrong("seed", 1, 4);
         wrong("box 0 0 0 0 unknown 1000", 1, 12);
         wrong("bo x 0 0 0 0", 1, 0);
+        wrong("cox 0 0 0 0", 1, 0);
+        wrong("boxz 0 0 0 0", 1, 0);
+        wrong("box z 0 0 0", 1, 4);
+        wrong("box 0 0 0 0;unknown 1000{", 1, 24);
+        wrong("box 0 0 0 0;unknown 1000:", 1, 24);
+        wrong("box 0 0 0 0;unknown 1000/", 1, 24);
+        wrong("box 0 0 0 0;unknown 1000`", 1, 24);
+        wrong("box 0 0 0 0;unknown 1000\r", 1, 24);
     }
 
     private static void setupErrorsChangeNothing() {

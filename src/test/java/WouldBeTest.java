@@ -10,6 +10,7 @@ public final class WouldBeTest {
         foretelling();
         steadying();
         nothingChanges();
+        asItIsNow();
         Check.end();
     }
 
@@ -68,17 +69,36 @@ public final class WouldBeTest {
     }
 
     private static void severalBest() {
-        DecadeBridge bridge = Bridges.made("box 0 0 0 0 0 0;unknown 5000;supply 1 1000000");
+        DecadeBridge bridge = Bridges.made("box 0 0 0 0 0 0;unknown 50000000;supply 1 1000000");
+        bridge.setArms(0, 4);
         // The deflection is rounded to 0 for many settings; the lowest one of them counts.
         int lowest = -1;
-        for (int setting = 0; setting < 10000 && lowest < 0; setting++) {
-            long share = 5000000000000L / (setting + 5000);
-            if (Math.abs((share - 500000000) / 1000) == 0) {
-                lowest = setting;
+        int nulls = 0;
+        int ones = 0;
+        int lastOfOne = 0;
+        for (int setting = 0; setting < 10000; setting++) {
+            long share = 1000000000L * 50000000 / (50000000 + setting);
+            long deflection = (share - 999900009) / 1000;
+            if (deflection == 0) {
+                nulls++;
+                lowest = lowest < 0 ? setting : lowest;
+            } else if (Math.abs(deflection) == 1) {
+                ones++;
+                lastOfOne = setting;
             }
         }
+        Check.due("many settings are nulls", nulls > 20 && lowest < 5000 ? 1 : 0, 1);
         Check.due("of several the lowest one", bridge.best(), lowest);
         Check.due("ideal ends by a null", bridge.ideal(), 5000);
+        Check.due("which is none the worse", bridge.miss(), 0);
+        bridge.setTo(lastOfOne);
+        Check.due("a deflection of -1", bridge.deflection(), -1);
+        Check.due("better than 1", bridge.better(), nulls);
+        bridge.setTo(lastOfOne + 1);
+        Check.due("a deflection of -2", bridge.deflection(), -2);
+        Check.due("better than 2", bridge.better(), nulls + ones);
+        bridge.setTo(5001);
+        Check.due("better than a null", bridge.better(), 0);
         DecadeBridge even = Bridges.made("box 0 0 0 0 0;unknown 1000;ratio 0 0;supply 1 1000000;leads 0 0 0");
         Check.due("the lowest one of an even balance", even.best(), 999);
     }
@@ -209,6 +229,41 @@ public final class WouldBeTest {
         Check.due("steady behind 301 ticks is not within 300", long300.steadyIn(), -1);
         DecadeBridge just = Bridges.made("box 2 0 0 0;unknown 1000;supply 817 1000000;warm unknown 0 1 0");
         Check.due("667 a tick are steady behind 300", just.steadyIn(), 300);
+    }
+
+    // Each call looks at the bridge as it is now, whatever was asked before.
+    private static void asItIsNow() {
+        DecadeBridge bridge = Bridges.made("box 2 0 0 0 0;unknown 3742;supply 20000 1000000");
+        bridge.ideal();
+        bridge.setArms(1, 0);
+        Check.due("miss now", bridge.miss(), missOf(3742, 374));
+        bridge.setArms(0, 0);
+        bridge.setTo(38);
+        Check.due("better now", bridge.better(), 1);
+        bridge.setArms(1, 0);
+        bridge.setTo(900);
+        Check.due("better now", bridge.better() > 500 ? 1 : 0, 1);
+        Check.due("bestWith now", bridge.bestWith(0, 0), 37);
+        bridge.setVolts(0);
+        Check.due("bestWith without volts", bridge.bestWith(0, 0), 0);
+        bridge.setVolts(1000);
+        Check.due("best now", bridge.best(), 374);
+        bridge.setVolts(0);
+        Check.due("ideal without volts", bridge.ideal(), 100);
+        Check.due("bestArms without volts", bridge.bestArms(), 0);
+        bridge.setVolts(1000);
+        Check.due("bestArms now", bridge.bestArms() > 0 ? 1 : 0, 1);
+        Check.due("apparent now", bridge.apparent(2), 3740);
+        bridge.setArms(0, 0);
+        Check.due("apparent with other arms", bridge.apparent(2), 3700);
+        Check.due("cooled", bridge.cooledIn(), 0);
+    }
+
+    // What the ideal setting and the next one are off, with arms of 10000 and 1000 and 20000 millivolts.
+    private static long missOf(long unknown, int ideal) {
+        long below = 20 * (1000000000L * unknown / (unknown + 100L * ideal) - 1000000000L / 11);
+        long above = 20 * (1000000000L / 11 - 1000000000L * unknown / (unknown + 100L * (ideal + 1)));
+        return below > above ? below - above : 0;
     }
 
     private static void nothingChanges() {
