@@ -1,3 +1,5 @@
+// A Wheatstone bridge with a decade box. All rows are made in the constructors and used again, so that
+// no call makes an object.
 public final class DecadeBridge {
     public static final int NONE = -1;
     public static final int HIDDEN = -1000000000;
@@ -9,6 +11,7 @@ public final class DecadeBridge {
     private static final int SLOTS = 2;
     private static final int MOST_STEPS = 60;
     private static final int MOST_TICKS = 300;
+    private static final int ERRORS_FROM = -10;
     private static final int NO_SUCH_SETTING = -2;
     private static final int NO_VOLTS = -2;
 
@@ -63,7 +66,7 @@ public final class DecadeBridge {
         boolean good = setup.understood();
         text.empty();
         if (!good) {
-            return -10 - text.errorCode;
+            return ERRORS_FROM - text.errorCode;
         }
         parts.copy(setup.draft);
         now.reset();
@@ -78,7 +81,7 @@ public final class DecadeBridge {
         boolean good = protocol.understood();
         text.empty();
         if (!good) {
-            return -10 - text.errorCode;
+            return ERRORS_FROM - text.errorCode;
         }
         remember();
         protocol.start();
@@ -551,6 +554,8 @@ public final class DecadeBridge {
         static final int NUMBER = '0';
         static final int BLANK = ' ';
         static final int MOST_DIGITS = 9;
+        static final int NOT_HERE = 1;
+        static final int OUT_OF_RANGE = 2;
 
         private final byte[] bytes = new byte[CAPACITY];
         int length;
@@ -637,7 +642,7 @@ public final class DecadeBridge {
 
         void takeSign(char sign) {
             if (kind != sign) {
-                fail(1);
+                fail(NOT_HERE);
             }
             advance();
         }
@@ -653,7 +658,7 @@ public final class DecadeBridge {
                 advance();
             }
             if (kind != NUMBER) {
-                fail(1);
+                fail(NOT_HERE);
                 return least;
             }
             int value = 0;
@@ -662,7 +667,7 @@ public final class DecadeBridge {
             }
             value = negative ? -value : value;
             if (end - start > MOST_DIGITS || value < least || value > most) {
-                fail(2);
+                fail(OUT_OF_RANGE);
                 return least;
             }
             advance();
@@ -877,6 +882,8 @@ public final class DecadeBridge {
         static final int WARM_BOX = 128;
         static final int RATIO_OF_KIND_0 = 256;
         static final int MOST_ERROR = 50000;
+        static final int TWICE = 3;
+        static final int MISSING = 4;
 
         private final Text text;
         final Parts draft = new Parts();
@@ -896,9 +903,9 @@ public final class DecadeBridge {
                 takeStatement();
             }
             if (text.kind != Text.END) {
-                text.fail(1);
+                text.fail(Text.NOT_HERE);
             } else if ((seen & BOX) == 0 || (seen & UNKNOWN) == 0) {
-                text.fail(4);
+                text.fail(MISSING);
             }
             return text.errorCode == 0;
         }
@@ -925,13 +932,13 @@ public final class DecadeBridge {
                 takeOnce(SEED);
                 draft.seed = text.number(0, 99999);
             } else {
-                text.fail(1);
+                text.fail(Text.NOT_HERE);
             }
         }
 
         private void takeOnce(int mark) {
             if ((seen & mark) != 0) {
-                text.fail(3);
+                text.fail(TWICE);
             }
             seen |= mark;
             text.advance();
@@ -955,7 +962,7 @@ public final class DecadeBridge {
             int kind = text.number(0, KINDS - 1);
             int mark = RATIO_OF_KIND_0 << kind;
             if ((seen & mark) != 0) {
-                text.failAt(3, position);
+                text.failAt(TWICE, position);
             }
             seen |= mark;
             draft.setErrorOfKind(kind, text.number(-MOST_ERROR, MOST_ERROR));
@@ -965,7 +972,7 @@ public final class DecadeBridge {
             text.advance();
             boolean box = text.isWord("box");
             if (!box && !text.isWord("unknown")) {
-                text.fail(1);
+                text.fail(Text.NOT_HERE);
             }
             takeOnce(box ? WARM_BOX : WARM_UNKNOWN);
             Heating heating = box ? draft.box : draft.unknown;
@@ -1005,6 +1012,8 @@ public final class DecadeBridge {
         static final int MOST_ROWS = 30;
         static final int MOST_DEPTH = 2;
         static final int FAR_ABOVE = 1000000;
+        static final int TOO_DEEP = 3;
+        static final int TOO_MANY = 4;
 
         private final Text text;
         private final int[] orders = new int[MOST_ROWS];
@@ -1049,7 +1058,7 @@ public final class DecadeBridge {
                 }
             }
             if (depth > 0) {
-                text.fail(1);
+                text.fail(Text.NOT_HERE);
             }
             return text.errorCode == 0;
         }
@@ -1067,11 +1076,11 @@ public final class DecadeBridge {
         private void takeStep() {
             int order = orderHere();
             if (order == NONE) {
-                text.fail(1);
+                text.fail(Text.NOT_HERE);
                 return;
             }
             if (rows >= MOST_ROWS) {
-                text.fail(4);
+                text.fail(TOO_MANY);
                 return;
             }
             int row = rows;
@@ -1087,34 +1096,27 @@ public final class DecadeBridge {
         }
 
         private int orderHere() {
-            if (text.isWord("arms")) {
-                return ARMS;
+            for (int order = ARMS; order <= UNLESS; order++) {
+                if (text.isWord(wordOf(order))) {
+                    return order;
+                }
             }
-            if (text.isWord("volts")) {
-                return VOLTS;
+            return NONE;
+        }
+
+        private static String wordOf(int order) {
+            switch (order) {
+                case ARMS: return "arms";
+                case VOLTS: return "volts";
+                case SET: return "set";
+                case TURN: return "turn";
+                case WIRES: return "wires";
+                case REST: return "rest";
+                case READ: return "read";
+                case BALANCE: return "balance";
+                case REPEAT: return "repeat";
+                default: return "unless";
             }
-            if (text.isWord("set")) {
-                return SET;
-            }
-            if (text.isWord("turn")) {
-                return TURN;
-            }
-            if (text.isWord("wires")) {
-                return WIRES;
-            }
-            if (text.isWord("rest")) {
-                return REST;
-            }
-            if (text.isWord("read")) {
-                return READ;
-            }
-            if (text.isWord("balance")) {
-                return BALANCE;
-            }
-            if (text.isWord("repeat")) {
-                return REPEAT;
-            }
-            return text.isWord("unless") ? UNLESS : NONE;
         }
 
         private void takeNumbers(int row, int order) {
@@ -1154,7 +1156,7 @@ public final class DecadeBridge {
                     break;
                 case UNLESS:
                     if (!text.isWord("null")) {
-                        text.fail(1);
+                        text.fail(Text.NOT_HERE);
                     }
                     text.advance();
                     break;
@@ -1165,7 +1167,7 @@ public final class DecadeBridge {
 
         private void openBracket(int row) {
             if (text.kind == '(' && depth >= MOST_DEPTH) {
-                text.fail(3);
+                text.fail(TOO_DEEP);
             }
             text.takeSign('(');
             if (depth >= 0 && depth < open.length) {
@@ -1384,6 +1386,11 @@ public final class DecadeBridge {
     // What an operation changes and undoing brings back: the circuit, the readings, the results.
     private static final class Bench {
         static final int MOST_KEPT = 10;
+        static final int BY_NULL = 1;
+        static final int BEHIND_LAST = 2;
+        static final int ALL_NINES = 3;
+        static final int ALL_ZEROS = 4;
+        static final int AHEAD_OF_LOOK = 5;
 
         final Circuit circuit;
         private final Parts parts;
@@ -1506,12 +1513,12 @@ public final class DecadeBridge {
                 for (int digit = 1; digit <= 9; digit++) {
                     circuit.dial(circuit.setting + weight);
                     if (circuit.whyBlocked() != 0) {
-                        return 5;
+                        return AHEAD_OF_LOOK;
                     }
                     int look = takeLook(turnedLooks);
                     if (isNull(look)) {
-                        results.add(circuit, 1);
-                        return 1;
+                        results.add(circuit, BY_NULL);
+                        return BY_NULL;
                     }
                     if (look > 0 == circuit.turned) {
                         circuit.dial(circuit.setting - weight);
@@ -1520,13 +1527,13 @@ public final class DecadeBridge {
                 }
             }
             if (circuit.setting == parts.settings() - 1) {
-                return 3;
+                return ALL_NINES;
             }
             if (circuit.setting == 0) {
-                return 4;
+                return ALL_ZEROS;
             }
-            results.add(circuit, 2);
-            return 2;
+            results.add(circuit, BEHIND_LAST);
+            return BEHIND_LAST;
         }
     }
 
@@ -1843,7 +1850,7 @@ public final class DecadeBridge {
                 addSign('-');
             }
             addNumber(Math.abs(result.corrected), 1);
-            if (result.ended == 1) {
+            if (result.ended == Bench.BY_NULL) {
                 addSign('*');
             }
             addSign('\n');
