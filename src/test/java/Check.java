@@ -32,6 +32,14 @@ final class Check {
         }
     }
 
+    // Two portraits of a bridge; a difference is told by its first line.
+    static void dueSame(String what, String got, String want) {
+        asked++;
+        if (!got.equals(want)) {
+            tell(what + ": it shows " + Portrait.difference(got, want));
+        }
+    }
+
     static void dueIndex(String what, Call call) {
         dueThrow(what, call, IndexOutOfBoundsException.class);
     }
