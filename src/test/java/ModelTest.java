@@ -2,7 +2,10 @@ import java.util.Random;
 
 // Runs of calls drawn by chance (from fixed seeds), each answer compared with the model's.
 public final class ModelTest {
-    private static final int RUNS = Integer.getInteger("runs", 300);
+    private static final int RUNS = Integer.getInteger("runs", 2500);
+    // "An object is used for at most 512 calls", and one turn of a run takes fewer than that.
+    private static final int MOST_CALLS = 512;
+    private static final int MOST_OF_ONE_TURN = 180;
     private static final String[] JUNK = {" ", "\n", ";", "(", ")", "-", "0", "9", "00", "box", "a", "Z", "\u00e9", "1234567890",
         "null", "turned", "repeat", "read", ",", "unknown 1000", ";;", "\t", "read 3;", "3"};
 
@@ -10,6 +13,7 @@ public final class ModelTest {
     private final int run;
     private final DecadeBridge bridge = new DecadeBridge();
     private final Model model = new Model();
+    private int left = MOST_CALLS;
     private int call;
 
     private ModelTest(int run) {
@@ -25,11 +29,10 @@ public final class ModelTest {
     }
 
     private void go() {
-        int looks = 0;
         loadSome();
-        for (call = 0; call < 120; call++) {
+        for (call = 0; left > MOST_OF_ONE_TURN; call++) {
             int kind = chance.nextInt(100);
-            if (kind < 3) {
+            if (kind < 2) {
                 loadSome();
             } else if (kind < 18) {
                 runSome();
@@ -37,13 +40,18 @@ public final class ModelTest {
                 operate();
             } else if (kind < 85) {
                 goBack();
-            } else if (kind < 89 && looks++ < 8) {
+            } else if (kind < 89) {
                 searches();
             } else {
                 foretell();
             }
-            compare();
+            compareSome();
         }
+        compareSizes();
+        compareParts();
+        compareNow();
+        compareReadings();
+        Check.due("calls of run " + run + " beyond " + MOST_CALLS, Math.min(0, left), 0);
     }
 
     private int below(int n) {
@@ -65,6 +73,7 @@ public final class ModelTest {
     }
 
     private void due(String what, double got, double want) {
+        left--;
         if (got != want) {
             Check.tell("run " + run + ", call " + call + ": " + what + " answered " + got + ", the model " + want);
         }
@@ -273,9 +282,13 @@ public final class ModelTest {
             case 2: due("cooledIn", bridge.cooledIn(), model.steadyIn(false)); break;
             case 3:
                 due("report", bridge.report(), model.report());
-                for (int i = -1; i <= model.report.length(); i++) {
-                    boolean there = i >= 0 && i < model.report.length();
-                    due("reportByte", bridge.reportByte(i), there ? model.report.charAt(i) : -1);
+                int length = model.report.length();
+                reportByte(-1);
+                reportByte(length - 1);
+                reportByte(length);
+                int from = below(length + 1);
+                for (int i = from; i < from + 20; i++) {
+                    reportByte(i);
                 }
                 break;
             default:
@@ -286,10 +299,33 @@ public final class ModelTest {
         }
     }
 
-    private void compare() {
+    private void reportByte(int i) {
+        boolean there = i >= 0 && i < model.report.length();
+        due("reportByte " + i, bridge.reportByte(i), there ? model.report.charAt(i) : -1);
+    }
+
+    private void compareSome() {
+        switch (below(10)) {
+            case 0: compareSizes(); break;
+            case 1: compareParts(); break;
+            case 2: compareNow(); break;
+            case 3: compareReadings(); break;
+            case 4: case 5: compareResults(); break;
+            default:
+                int what = below(20);
+                due("size " + what, bridge.size(what), model.size(what));
+                due("deflection", bridge.deflection(), model.deflection());
+                break;
+        }
+    }
+
+    private void compareSizes() {
         for (int what = 0; what < 20; what++) {
             due("size " + what, bridge.size(what), model.size(what));
         }
+    }
+
+    private void compareParts() {
         for (int d = 0; d < model.setup.errors.size(); d++) {
             due("decade step", bridge.decade(d, 0), model.stepOf(d));
             due("decade error", bridge.decade(d, 1), model.setup.errors.get(d));
@@ -304,6 +340,9 @@ public final class ModelTest {
         }
         int setting = below(model.settings());
         due("coldOf", bridge.coldOf(setting), model.cold(model.digitsOf(setting)));
+    }
+
+    private void compareNow() {
         due("share", bridge.share(false), model.share(false));
         due("share of arms", bridge.share(true), model.share(true));
         due("deflection", bridge.deflection(), model.deflection());
@@ -312,24 +351,31 @@ public final class ModelTest {
         due("power of the box", bridge.power(true), model.power(true));
         due("whyNot", bridge.whyNot(), model.whyNot());
         due("energy", bridge.energy(), model.state.energy);
+    }
+
+    private void compareReadings() {
         for (int i = -1; i < 12; i++) {
             boolean there = i >= 0 && i < model.state.readings.size();
             due("reading", bridge.reading(i), there ? model.state.readings.get(i) : -1000000000);
         }
         due("meanReading", bridge.meanReading(), model.meanReading());
         due("spread", bridge.spread(), model.spread());
-        compareResults();
     }
 
+    // The latest result, others by chance, and some manners.
     private void compareResults() {
-        for (int i = 0; i < model.state.outcomes.size(); i++) {
+        int results = model.state.outcomes.size();
+        for (int n = 0; n < 4 && results > 0; n++) {
+            int i = n == 0 ? results - 1 : below(results);
             for (int what = 0; what < 7; what++) {
                 due("result " + what, bridge.result(i, what), model.result(i, what));
             }
             due("told", bridge.valueOf(i, false), model.state.outcomes.get(i).told());
             due("corrected", bridge.valueOf(i, true), model.state.outcomes.get(i).corrected());
         }
-        for (int m = 0; m < model.manners().size(); m++) {
+        int manners = model.manners().size();
+        for (int n = 0; n < 3 && manners > 0; n++) {
+            int m = below(manners);
             for (int what = 0; what < 6; what++) {
                 due("manner " + what, bridge.manner(m, what), model.manner(m, what));
             }

@@ -234,39 +234,43 @@ public final class StatesEdgesTest {
         }
     }
 
+    private static final String MANY = "box 1 0 0 0 0;unknown 3700;leads 0 100 0;ratio 1 777;supply 1000 1000000";
+
     // Results that differ in all that they tell, brought back in place of others.
     private static void resultsBroughtBack() {
-        String setup = "box 1 0 0 0 0;unknown 3700;leads 0 100 0;ratio 1 777;supply 1000 1000000";
-        for (int first = 0; first < 20; first += 19) {
-            DecadeBridge bridge = Bridges.made(setup);
-            filled(bridge, 0, first);
+        String first = results(filledFrom(Bridges.made(MANY), 0, 0));
+        String later = results(filledFrom(Bridges.made(MANY), 0, 22));
+        for (int restored = 0; restored < 2; restored++) {
+            DecadeBridge bridge = filledFrom(Bridges.made(MANY), 0, 0);
             bridge.save(0);
-            filled(bridge, first + 1, 21);
+            filledFrom(bridge, 1, 22);
             bridge.save(1);
-            String later = results(bridge);
-            bridge.restore(0);
-            DecadeBridge twin = Bridges.made(setup);
-            filled(twin, 0, first);
-            Check.dueText("the results of slot 0", results(bridge), results(twin));
-            bridge.restore(1);
-            Check.dueText("the results of slot 1", results(bridge), later);
-            // 20 results move up when the next one comes, and back when it is undone.
-            bridge.setArms(2, 2);
-            bridge.balance(true);
-            Check.due("they moved up", results(bridge).equals(later) ? 1 : 0, 0);
-            bridge.undo();
-            bridge.undo();
-            Check.dueText("the results undone", results(bridge), later);
+            bridge.restore(1 - restored);
+            bridge.restore(restored);
+            Check.dueText("the results of slot " + restored, results(bridge), restored == 0 ? first : later);
         }
+        // 20 results move up when the next one comes, and back when it is undone.
+        DecadeBridge moved = another();
+        Check.due("they moved up", results(moved).equals(later) ? 1 : 0, 0);
+        DecadeBridge undone = another();
+        undone.undo();
+        Check.dueText("the results undone", results(undone), later);
     }
 
-    private static void filled(DecadeBridge bridge, int from, int to) {
+    private static DecadeBridge another() {
+        DecadeBridge bridge = filledFrom(Bridges.made(MANY), 0, 22);
+        Bridges.run(bridge, "arms 2 2;wires 2;balance turned;");
+        return bridge;
+    }
+
+    private static DecadeBridge filledFrom(DecadeBridge bridge, int from, int to) {
         String[] arms = {"0 0", "0 1", "1 1", "1 2", "2 2", "2 3", "3 4"};
         for (int i = from; i <= to; i++) {
             Bridges.run(bridge, "arms " + arms[i % 7] + ";wires " + (2 + i / 3 % 2) + ";rest " + (i + 1)
                     + ";balance" + (i % 5 == 0 ? " turned;" : ";"));
             Check.due("a result comes", bridge.size(17), Math.min(20, i + 1));
         }
+        return bridge;
     }
 
     private static String results(DecadeBridge bridge) {

@@ -26,13 +26,14 @@ public final class WildTest {
             }
         }
         face.sort(Comparator.comparing(Method::getName));
-        for (int run = 0; run < 150; run++) {
+        for (int run = 0; run < 1000; run++) {
             Random chance = new Random(run);
             DecadeBridge bridge = new DecadeBridge();
             if (run % 5 > 0) {
                 Bridges.load(bridge, SETUPS[run % 5 - 1]);
             }
-            for (int call = 0; call < 500; call++) {
+            // Each one takes some 6 calls: an object is used for at most 512.
+            for (int call = 0; call < 60; call++) {
                 oneCall(bridge, face.get(chance.nextInt(face.size())), chance);
             }
         }
@@ -64,11 +65,8 @@ public final class WildTest {
         Check.due("it ends", 1, 1);
     }
 
+    // Those that nearly every change would change.
     private static int[] sizesOf(DecadeBridge bridge) {
-        int[] sizes = new int[20];
-        for (int what = 0; what < sizes.length; what++) {
-            sizes[what] = bridge.size(what);
-        }
-        return sizes;
+        return new int[] {bridge.size(9), bridge.size(14), bridge.size(15), bridge.size(19)};
     }
 }

@@ -58,14 +58,18 @@ public final class WouldBeTest {
         other.setTo(100);
         // Nearer than 950: 92 (966) to 99 (1039), 101 (960) to 109 (1044), 110 (1055) and 111 (1065), ...
         int nearer = 0;
-        long here = Math.abs(other.deflection());
+        long here = Math.abs(offBy(950));
         for (int setting = 0; setting < 1000; setting++) {
-            other.setTo(setting);
-            nearer += Math.abs(other.deflection()) < here ? 1 : 0;
+            int cold = (setting / 100 * 950000 + setting / 10 % 10 * 105000 + setting % 10 * 10500) / 1000;
+            nearer += Math.abs(offBy(cold)) < here ? 1 : 0;
         }
-        other.setTo(100);
         Check.due("better", other.better(), nearer);
         Check.due("some are", nearer > 15 ? 1 : 0, 1);
+    }
+
+    // The deflection of 1030 against a box by 20000 millivolts.
+    private static long offBy(int box) {
+        return 20 * (1000000000L * 1030 / (1030 + box) - 500000000);
     }
 
     private static void severalBest() {
