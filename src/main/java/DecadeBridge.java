@@ -1741,7 +1741,7 @@ public final class DecadeBridge {
                     best = at;
                     limit = Math.abs(here);
                 }
-                at += alikeBehind(at, here, limit);
+                at += Math.max(0, alikeBehind(at, here, limit));
             }
             return best;
         }
@@ -1754,7 +1754,7 @@ public final class DecadeBridge {
                 if (Math.abs(here) < limit) {
                     number++;
                 }
-                at += alikeBehind(at, here, limit);
+                at += Math.max(0, alikeBehind(at, here, limit));
             }
             return number;
         }
